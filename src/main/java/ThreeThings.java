@@ -15,7 +15,7 @@ public final class ThreeThings {
     private static final int CODES = 16807;
     /** Two SACKS and three plain THINGS can lie in the most ways: 25 (343 - 2), three in one SACK being too many. */
     private static final int STATES = 8525;
-    /** Above the 78,275 pairs of states one STEP apart that two SACKS and three plain THINGS have. */
+    /** Those have the most pairs of states one STEP apart, too: 78,050. */
     private static final int PAIRS = 80000;
     private static final int[] SEVENS = {1, 7, 49, 343, 2401};
 
@@ -149,7 +149,7 @@ public final class ThreeThings {
         switch (what) {
             case 0: return isle.kind[t];
             case 1: return now.where[t];
-            case 2: return isle.weight(t);
+            case 2: return isle.weight[t];
             default: return now.whom(t);
         }
     }
@@ -161,7 +161,7 @@ public final class ThreeThings {
             case BAG: return now.inBag(t);
             case LIVING: return now.loadOf(now.where[t]);
             case HEAVY: return isle.wanting(t);
-            case SACK: return isle.holds(t) - now.inBag(t);
+            case SACK: return isle.room[t] - now.inBag(t);
             default: return Integer.bitCount(now.heldBy(now.where[t])) - 1;
         }
     }
@@ -476,7 +476,7 @@ public final class ThreeThings {
     private boolean canHaveHad(int set) {
         int weight = 0;
         for (int t = 0; t < isle.things; t++) {
-            if ((set >> t & 1) != 0) weight += isle.weight(t);
+            if ((set >> t & 1) != 0) weight += isle.weight[t];
         }
         if (weight > now.limit) return false;
         for (int i = 0; i < seen.count; i++) {
@@ -720,6 +720,9 @@ public final class ThreeThings {
         int people, things, works, bags;
         final int[] kind = new int[THINGS];
         final int[] start = new int[THINGS];
+        /** What each THING counts, and how many it holds. */
+        final int[] weight = new int[THINGS];
+        final int[] room = new int[THINGS];
         final int[] bag = new int[BAGS];
         final int[] hour = new int[WORKS];
         final int[] who = new int[WORKS];
@@ -741,6 +744,8 @@ public final class ThreeThings {
             if (things >= THINGS) return;
             kind[things] = ofKind;
             start[things] = place;
+            weight[things] = weightOf(ofKind);
+            room[things] = roomOf(ofKind);
             if (isBag(things) && bags < BAGS) bag[bags++] = things;
             things++;
         }
@@ -752,6 +757,8 @@ public final class ThreeThings {
             bags = other.bags;
             System.arraycopy(other.kind, 0, kind, 0, THINGS);
             System.arraycopy(other.start, 0, start, 0, THINGS);
+            System.arraycopy(other.weight, 0, weight, 0, THINGS);
+            System.arraycopy(other.room, 0, room, 0, THINGS);
             System.arraycopy(other.bag, 0, bag, 0, BAGS);
             System.arraycopy(other.hour, 0, hour, 0, WORKS);
             System.arraycopy(other.who, 0, who, 0, WORKS);
@@ -763,7 +770,7 @@ public final class ThreeThings {
         private void tallyWorks() {
             Arrays.fill(byHour, 0);
             for (int w = 0; w < works; w++) byHour[hour[w]] |= 1 << w;
-            for (int set = 0; set < 1 << WORKS; set++) {
+            for (int set = 0; set < 1 << works; set++) {
                 int sum = 0;
                 for (int w = 0; w < works; w++) sum += (set >> w & 1) * worth[w];
                 worthOf[set] = sum;
@@ -795,7 +802,7 @@ public final class ThreeThings {
         }
 
         boolean isBag(int t) {
-            return kind[t] == BAG || kind[t] == SACK;
+            return room[t] > 0;
         }
 
         boolean isLiving(int t) {
@@ -806,16 +813,12 @@ public final class ThreeThings {
             return kind[t] == ofKind || ofKind == BAG && isBag(t) || ofKind == LIVING && isLiving(t);
         }
 
-        int weight(int t) {
-            return weightOf(kind[t]);
-        }
-
         static int weightOf(int ofKind) {
             return ofKind == HEAVY || ofKind == BEAST ? 2 : 1;
         }
 
-        int holds(int t) {
-            return kind[t] == SACK ? 2 : kind[t] == BAG ? 1 : 0;
+        static int roomOf(int ofKind) {
+            return ofKind == SACK ? 2 : ofKind == BAG ? 1 : 0;
         }
 
         int ofWork(int w, int what) {
@@ -1023,7 +1026,7 @@ public final class ThreeThings {
             Arrays.fill(inside, 0);
             for (int t = 0; t < isle.things; t++) {
                 int place = where[t];
-                if (place <= BEACH) load[place] += isle.weight(t);
+                if (place <= BEACH) load[place] += isle.weight[t];
                 else inside[place - FIRST_BAG]++;
                 held[whom(t)] |= 1 << t;
             }
@@ -1054,7 +1057,7 @@ public final class ThreeThings {
         }
 
         private boolean fits(int t, int to) {
-            return to == BEACH || load[to] + isle.weight(t) <= limit;
+            return to == BEACH || load[to] + isle.weight[t] <= limit;
         }
 
         /** Where a THING can go by one STEP (bits). */
@@ -1078,7 +1081,7 @@ public final class ThreeThings {
             int mask = 0;
             for (int b = 0; b < isle.bags; b++) {
                 int bag = isle.bag[b];
-                if (where[bag] == place && inside[b] < isle.holds(bag)) mask |= 1 << FIRST_BAG + b;
+                if (where[bag] == place && inside[b] < isle.room[bag]) mask |= 1 << FIRST_BAG + b;
             }
             return mask;
         }
@@ -1095,7 +1098,7 @@ public final class ThreeThings {
             }
             tally();
             for (int b = 0; b < isle.bags; b++) {
-                if (inside[b] > isle.holds(isle.bag[b])) return false;
+                if (inside[b] > isle.room[isle.bag[b]]) return false;
             }
             return heaviest() <= limit;
         }
@@ -1111,12 +1114,12 @@ public final class ThreeThings {
 
         /** What one LEAVES (bits) to be given a THING by THEFT; NONE: it can't be given. */
         int droppedFor(int t, int q) {
-            int over = load[q] + isle.weight(t) - limit;
+            int over = load[q] + isle.weight[t] - limit;
             int dropped = 0;
             for (int u = 0; u < isle.things && over > 0; u++) {
                 if (where[u] != q || isle.isLiving(u)) continue;
                 dropped |= 1 << u;
-                over -= isle.weight(u);
+                over -= isle.weight[u];
             }
             return over > 0 ? NONE : dropped;
         }
@@ -1193,7 +1196,7 @@ public final class ThreeThings {
         private final States states;
         private final Places places;
         private final int[] wanted = new int[THINGS];
-        /** Of each state those one STEP away that were met ahead of it, up to its end; a STEP can be taken back by one. */
+        /** Of each state those ahead of it that are one STEP away: once a pair, since one STEP takes another back. */
         final int[] near = new int[PAIRS];
         final int[] nearEnd = new int[STATES];
         private int nearCount;
