@@ -247,6 +247,7 @@ public final class PromisesTest {
         faultOf("p1tz w 0", 6);
         faultOf("p1tz w6", 6);
         faultOf("p1tz w01", 7);
+        faultOf("p1tztzw01:1", 8);
         faultOf("p1tz w001", 8);
         faultOf("p1w000:1", 5);
         faultOf("p1tz w000", 9);
@@ -408,6 +409,8 @@ public final class PromisesTest {
         due("count(3)", x.count(3), 0);
         due("limit(2) where one has 3", x.limit(2), STATE);
         due("limit(3)", x.limit(3), 6);
+        x = isle("p4 tz tz hz t3");
+        due("limit(1), more on the BEACH", x.limit(1), 3);
     }
 
     private static void promise17() {
@@ -511,6 +514,10 @@ public final class PromisesTest {
         due("undo(0)", x.undo(0), 3);
         stands(x, 0, 0, 1, 2, 4, 3);
         due("undo(0)", x.undo(0), 0);
+        x = isle("p2 t1 t0");
+        x.step(1, 1);
+        due("undo(0)", x.undo(0), 1);
+        stands(x, 1, 0, 3);
     }
 
     private static void promise21() {
@@ -628,6 +635,10 @@ public final class PromisesTest {
         told(x, "a DAY of 4", x.day(0), 5, 12);
         rowOf(x, 0, Arrays.copyOf(four, 18));
         told(x, "a DAY of 3", x.day(0), 1, 3);
+        rowOf(x, 0, 3, -1, -1, -1, -1, -1);
+        found(x, "day() with its first none", x.day(0), UNLIKE);
+        x.row(0, 6);
+        told(x, "a DAY of 0 0 0 0 0 0", x.day(0), 1, 3);
         for (int n : new int[] {0, 1, 5, 7, 23, 25, 30, 36}) {
             x.row(0, n);
             found(x, "day() of " + n, x.day(0), SIZE);
@@ -640,6 +651,18 @@ public final class PromisesTest {
         found(x, "day(1)", x.day(1), NOTHING);
         due("day(6)", x.day(6), BAD);
         due("day(-1)", x.day(-1), BAD);
+        x = isle("p2 t1 w000:2");
+        x.row(0, 6);
+        told(x, "STEP 0", x.day(0), 1, 2);
+        x = isle("p1 hz hz w0001:2");
+        rowOf(x, 0, 0, 7, -1, -1, -1, -1, -1, -1, -1, -1, -1, -1);
+        told(x, "above LIMIT", x.day(0), 0, 0);
+        x.limit(4);
+        told(x, "LIMIT 4", x.day(0), 1, 2);
+        write(x, 0, "p1 t0 w500:1");
+        x.island(0);
+        rowOf(x, 0, -1, 4, -1, -1, -1, -1);
+        told(x, "a DAY of another ISLAND", x.day(0), 0, 0);
     }
 
     private static void promise26() {
@@ -666,6 +689,12 @@ public final class PromisesTest {
             rowOf(x, 0, -1, -1, -1, -1, v);
             found(x, "fewest() with " + v, x.fewest(0), UNLIKE);
         }
+        rowOf(x, 0, 3, -1, -1, -1, -1);
+        found(x, "fewest() with its first none", x.fewest(0), UNLIKE);
+        rowOf(x, 0, -1, -1, -1, 0, -1);
+        told(x, "fewest(), to 0", x.fewest(0), 1, 1);
+        rowOf(x, 0, -1, -1, 0, -1, -1);
+        told(x, "fewest(), to 0, full hands", x.fewest(0), 2, 7);
         rowOf(x, 0, 9, 9, 9, 9, 9, 9);
         found(x, "fewest() of too many that are none", x.fewest(0), SIZE);
         found(x, "fewest(1)", x.fewest(1), NOTHING);
@@ -749,6 +778,9 @@ public final class PromisesTest {
         told(x, "most(2), one at a time", x.most(2), 14, 20);
         x = isle("p2 tz w010:5 w500:1 w510:2");
         told(x, "most(1), the better late", x.most(1), 7, 8);
+        x = isle("p2 tz tz w000:3 w1101:5");
+        told(x, "most(1), one or the other", x.most(1), 5, 8);
+        told(x, "most(2), both", x.most(2), 8, 8);
         x = isle("p3 tz t0 t0 w0101:3 w001:1");
         told(x, "most(1), two STEPS too many", x.most(1), 1, 4);
         told(x, "most(2), two STEPS", x.most(2), 3, 4);
@@ -768,6 +800,16 @@ public final class PromisesTest {
         due("hand(1) at 4", x.hand(1), 0);
         x.limit(6);
         due("hand(1) at 6", x.hand(1), 0);
+        x = isle("p1 hz hz tz w10012:7");
+        due("hand(2) two below", x.hand(2), 0);
+        x.limit(4);
+        due("hand(2) one below", x.hand(2), 7);
+        x = isle("p1 hz hz hz tz w100123:7");
+        x.limit(6);
+        due("hand(2) at 6, more wanted", x.hand(2), 0);
+        x = isle("p1 hz hz w1001:7");
+        x.limit(6);
+        x.thing(1, 0);
         due("hand(3) at 6", x.hand(3), BAD);
         due("asked() stays", x.asked(), 3);
     }
@@ -824,6 +866,16 @@ public final class PromisesTest {
         // To have room for what it takes one first leaves what it has.
         x = isle("p1 h0 t0 tz");
         due("full hands", x.theft(0, 2), 2);
+        x = isle("p1 t0 e0 tz hz");
+        x.limit(4);
+        x.step(2, 0);
+        due("fuller hands", x.theft(0, 3), 3);
+        x = isle("p2 t1 t0 h0");
+        due("from 0", x.theft(1, 1), 2);
+        x.limit(4);
+        due("from 0 with LIMIT 4", x.theft(1, 1), NONE);
+        x = isle("p2 h0 l1 l1 t1");
+        for (int t = 1; t < 4; t++) due("what can't be given brings nothing", x.theft(0, t), NONE);
     }
 
     private static void promise34() {
@@ -1028,6 +1080,20 @@ public final class PromisesTest {
         due("gone(6)", x.gone(6), BAD);
         due("gone(-1)", x.gone(-1), BAD);
         stands(x, 0, 0, 0, 0, 0, 6);
+        x = isle("p2 l0 b0 t0");
+        for (int place = 4; place < 6; place++) {
+            rowOf(x, 0, place, 4, 4, 3);
+            found(x, "gone to a LIVING one at " + place, x.gone(0), UNLIKE);
+        }
+        x = isle("p1 bz sz");
+        for (int place = 5; place < 7; place++) {
+            rowOf(x, 0, place, 4, 3);
+            found(x, "gone to a BAG at " + place, x.gone(0), UNLIKE);
+        }
+        rowOf(x, 0, 4, 4, 0);
+        found(x, "gone to LIMIT 0", x.gone(0), UNLIKE);
+        rowOf(x, 0, 4, 0, 1);
+        due("gone to LIMIT 1", x.gone(0), 1);
     }
 
     private static void promise44() {
@@ -1132,23 +1198,25 @@ public final class PromisesTest {
         ThreeThings x = new ThreeThings();
         due("digest() of nothing", x.digest(), mix(0, 0, 0, 0, 0, 0, 0, 0, 3, -1, -1, -1, -1, -1, -1, -1, -1, -1, -1,
             -1, -1, -1));
-        write(x, 1, "p2 b0tz w310:4");
+        write(x, 1, "p2b0tzw310:4w101:2");
         x.island(1);
         x.step(1, 0);
         x.keep(0);
         x.limit(4);
         x.step(1, 5);
         x.keep(2);
+        x.saw(1, 0);
         x.saw(0, 1);
-        x.saw(0, 0);
         rowOf(x, 0, -7, 1 << 30);
+        x.row(3, 9);
+        x.tear(3);
         x.row(5, 0);
         x.text(3, 1);
         x.put(3, 0, 200);
         x.thing(0, 2);
-        due("digest()", x.digest(), mix(2, 2, 1, 1, 1, 2, 2, 2, 4, 1, 0, 1, 0, 0, 5, 1, 0, 3, 1, 1, 4, 0, 1, 0, 0, 0, 0,
-            3, -1, 0, 5, 4, 2, -7, 1 << 30, -1, -1, -1, -1, 0, -1, 14, 'p', '2', ' ', 'b', '0', 't', 'z', ' ', 'w', '3',
-            '1', '0', ':', '4', -1, 1, -56));
+        due("digest()", x.digest(), mix(2, 2, 2, 1, 1, 2, 2, 2, 4, 1, 0, 1, 0, 0, 5, 1, 0, 3, 1, 1, 4, 1, 0, 2, 2,
+            1, 0, 0, 1, 0, 0, 3, -1, 0, 5, 4, 2, -7, 1 << 30, -1, -1, -1, -1, 0, -1, 18, 'p', '2', 'b', '0', 't', 'z',
+            'w', '3', '1', '0', ':', '4', 'w', '1', '0', '1', ':', '2', -1, 1, -56));
         due("asked() stays", x.asked(), 1);
     }
 
@@ -1174,6 +1242,27 @@ public final class PromisesTest {
         x.island(0);
         x.limit(4);
         told(x, "all() of a third", x.all(), 4, 2);
+        x = isle("p2 t0 t1");
+        told(x, "all()", x.all(), 9, 2);
+        write(x, 0, "p2 h0 h1");
+        x.island(0);
+        told(x, "all() of an ISLAND alike but for KINDS", x.all(), 7, 3);
+        x = isle("p2 t1 h0 h1");
+        rowOf(x, 0, 1, 0, 4);
+        due("fewest()", x.fewest(0), 1);
+        x.step(2, 4);
+        due("fewest() then", x.fewest(0), 0);
+        x = isle("p2 t1 t0");
+        x.limit(1);
+        rowOf(x, 0, 0, 1);
+        due("fewest() by LIMIT 1", x.fewest(0), 3);
+        due("theft() by LIMIT 1", x.theft(0, 0), 2);
+        due("fewest() behind theft()", x.fewest(0), 3);
+        x = isle("p2 t1");
+        rowOf(x, 0, 0);
+        due("fewest() from the other one", x.fewest(0), 1);
+        x.step(0, 0);
+        due("fewest() there", x.fewest(0), 0);
     }
 
     public static void main(String[] args) {
