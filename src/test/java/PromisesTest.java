@@ -493,7 +493,6 @@ public final class PromisesTest {
         told(x, "steps(), one in a BAG", x.steps(), 12, 0);
         x = isle("p1 l0");
         told(x, "steps() of none", x.steps(), 0, NONE);
-        told(new ThreeThings(), "steps() of nobody", new ThreeThings().steps(), 0, 0);
         x = new ThreeThings();
         told(x, "steps() of nobody", x.steps(), 0, NONE);
     }
@@ -1011,7 +1010,8 @@ public final class PromisesTest {
         x.saw(1, 0);
         x.saw(0, 1);
         told(x, "with 2 or 3", x.drowned(), 1 + 1 + 2, 0);
-        told(new ThreeThings(), "drowned() of nobody", new ThreeThings().drowned(), 1, 0);
+        x = new ThreeThings();
+        told(x, "drowned() of nobody", x.drowned(), 1, 0);
     }
 
     private static void promise41() {
