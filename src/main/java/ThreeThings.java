@@ -660,42 +660,45 @@ public final class ThreeThings {
         }
 
         boolean missing(int r) {
-            return size[r] < 0;
+            return sizeOf(r) < 0;
         }
 
         /** -1: missing. */
         int sizeOf(int r) {
-            return size[r];
+            return isOne(r) ? size[r] : -1;
         }
 
         void make(int r, int n, int v) {
+            if (!isOne(r) || n < 0 || n > room) return;
             size[r] = n;
             Arrays.fill(places, r * room, r * room + n, v);
         }
 
         void drop(int r) {
-            size[r] = -1;
+            if (isOne(r)) size[r] = -1;
         }
 
         boolean hasPlaces(int r, int i, int n) {
-            return i >= 0 && i <= size[r] && n <= size[r] - i;
+            int all = sizeOf(r);
+            return i >= 0 && i <= all && n >= 0 && n <= all - i;
         }
 
         int get(int r, int i) {
-            return places[r * room + i];
+            return hasPlaces(r, i, 1) ? places[r * room + i] : 0;
         }
 
         void set(int r, int i, int v) {
-            places[r * room + i] = v;
+            if (hasPlaces(r, i, 1)) places[r * room + i] = v;
         }
 
         void shift(int r, int i, int to, int j, int n) {
+            if (!hasPlaces(r, i, n) || !hasPlaces(to, j, n)) return;
             System.arraycopy(places, r * room + i, places, to * room + j, n);
         }
 
         long sum(int r) {
             long sum = 0;
-            for (int i = 0; i < size[r]; i++) sum += get(r, i);
+            for (int i = 0; i < sizeOf(r); i++) sum += get(r, i);
             return sum;
         }
 
@@ -1039,11 +1042,11 @@ public final class ThreeThings {
         }
 
         int loadOf(int p) {
-            return p <= BEACH ? load[p] : 0;
+            return p >= 0 && p <= BEACH ? load[p] : 0;
         }
 
         int heldBy(int p) {
-            return p <= BEACH ? held[p] : 0;
+            return p >= 0 && p <= BEACH ? held[p] : 0;
         }
 
         int inBag(int t) {
@@ -1148,11 +1151,11 @@ public final class ThreeThings {
         }
 
         int firstOf(int i) {
-            return first[i];
+            return i >= 0 && i < count ? first[i] : 0;
         }
 
         int secondOf(int i) {
-            return second[i];
+            return i >= 0 && i < count ? second[i] : 0;
         }
     }
 
@@ -1175,6 +1178,7 @@ public final class ThreeThings {
 
         /** The place in the order of a state, new or not. */
         int reach(int ofCode, int from, int step, int steps) {
+            if (ofCode < 0 || ofCode >= CODES) return 0;
             if (order[ofCode] > 0) return order[ofCode] - 1;
             if (count >= STATES) return 0;
             code[count] = ofCode;
@@ -1258,20 +1262,24 @@ public final class ThreeThings {
             return states.count;
         }
 
+        private boolean isFound(int i) {
+            return i >= 0 && i < states.count;
+        }
+
         int depthOf(int i) {
-            return i >= 0 && i < STATES ? states.depth[i] : 0;
+            return isFound(i) ? states.depth[i] : 0;
         }
 
         int codeOf(int i) {
-            return states.code[i];
+            return isFound(i) ? states.code[i] : 0;
         }
 
         int stepTo(int i) {
-            return states.by[i];
+            return isFound(i) ? states.by[i] : 0;
         }
 
         int stateBefore(int i) {
-            return states.before[i];
+            return isFound(i) ? states.before[i] : 0;
         }
 
         /** A THING is wanted with one, on the BEACH, or (-1) anywhere. */

@@ -5,7 +5,11 @@ import java.lang.reflect.Method;
 import java.lang.reflect.Modifier;
 import java.nio.file.Files;
 import java.nio.file.Path;
+import java.util.ArrayList;
 import java.util.Arrays;
+import java.util.Collections;
+import java.util.IdentityHashMap;
+import java.util.List;
 import java.util.Random;
 import java.util.Set;
 import java.util.TreeSet;
@@ -23,6 +27,9 @@ public final class FaceTest {
     private static final String FORBIDDEN = "\\b(throw|try|catch|synchronized|assert|double|float|random|Random|"
         + "currentTimeMillis|nanoTime|Thread|File|Object|instanceof|while|protected|var|equals|hashCode|toString)\\b"
         + "|->|::|\"";
+
+    private static final Set<String> LIBRARY = Set.of("Arrays.fill", "Integer.bitCount", "Math.max", "Math.min",
+        "System.arraycopy");
 
     private static int wrong = 0;
 
@@ -92,6 +99,61 @@ public final class FaceTest {
         Matcher i = Pattern.compile("import ([^;]*);").matcher(code);
         while (i.find()) due("an import", i.group(1), "java.util.Arrays");
         for (String line : s.split("\n")) due("a line of up to 120 signs", line.length() <= 120, true);
+        Matcher calls = Pattern.compile("\\b([A-Z][A-Za-z]*\\.[a-zA-Z]+)\\(").matcher(code);
+        while (calls.find()) {
+            boolean own = code.contains("class " + calls.group(1).split("\\.")[0] + " {");
+            due(calls.group(1) + " is in the language", own || LIBRARY.contains(calls.group(1)), true);
+        }
+        methodLengths(code);
+    }
+
+    /** Methods begin and end at the same depth of blanks, as the file is laid out. */
+    private static void methodLengths(String code) {
+        Matcher m = Pattern.compile("(?m)^( {4}| {8})[a-zA-Z][^;=\n]*\\) \\{\n(?s:(.*?))^\\1\\}").matcher(code);
+        int n = 0;
+        while (m.find()) {
+            n++;
+            due("a method of up to 60 lines", m.group(2).split("\n").length <= 60, true);
+        }
+        due("more methods than the face has (" + n + ")", n > 53, true);
+    }
+
+    private static void classes() {
+        List<Class<?>> all = new ArrayList<>(Arrays.asList(ThreeThings.class.getDeclaredClasses()));
+        all.add(ThreeThings.class);
+        for (Class<?> c : all) {
+            for (Method m : c.getDeclaredMethods()) {
+                due("what " + m.getName() + " takes, up to 7", m.getParameterCount() <= 7, true);
+            }
+            for (Field f : c.getDeclaredFields()) {
+                if (!Modifier.isStatic(f.getModifiers())) continue;
+                due("static " + f.getName() + " final", Modifier.isFinal(f.getModifiers()), true);
+                due("static " + f.getName() + " of ints", Set.of("int", "int[]").contains(f.getType().getSimpleName()),
+                    true);
+            }
+        }
+    }
+
+    /** All calls of one run share one room: what an object makes is to be a small part of it. */
+    private static void room() throws IllegalAccessException {
+        ThreeThings x = new ThreeThings();
+        Set<Object> known = Collections.newSetFromMap(new IdentityHashMap<>());
+        long elements = elementsOf(x, known);
+        due("up to 200 objects (" + known.size() + ")", known.size() <= 200, true);
+        due("up to 200,000 fields and elements (" + elements + ")", elements <= 200000, true);
+    }
+
+    private static long elementsOf(Object o, Set<Object> known) throws IllegalAccessException {
+        if (o == null || !known.add(o)) return 0;
+        if (o instanceof int[]) return ((int[]) o).length;
+        long sum = 0;
+        for (Field f : o.getClass().getDeclaredFields()) {
+            if (Modifier.isStatic(f.getModifiers())) continue;
+            f.setAccessible(true);
+            sum++;
+            if (!f.getType().isPrimitive()) sum += elementsOf(f.get(o), known);
+        }
+        return sum;
     }
 
     /** No call throws, whatever its arguments are, in whatever state. */
@@ -109,7 +171,7 @@ public final class FaceTest {
             x.island(0);
             for (int call = 0; call < 400; call++) {
                 Method m = methods[random.nextInt(methods.length)];
-                if (!Modifier.isPublic(m.getModifiers()) || m.getName().equals("island")) continue;
+                if (!Modifier.isPublic(m.getModifiers())) continue;
                 Object[] args = new Object[m.getParameterCount()];
                 for (int i = 0; i < args.length; i++) {
                     args[i] = random.nextInt(3) == 0 ? odd[random.nextInt(odd.length)] : random.nextInt(7) - 1;
@@ -141,7 +203,9 @@ public final class FaceTest {
     public static void main(String[] args) throws Exception {
         methods();
         fields();
+        classes();
         source();
+        room();
         neverThrows();
         makesNothing();
         System.out.println(wrong == 0 ? "the face is as due" : wrong + " are not as due");
