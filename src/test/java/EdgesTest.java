@@ -2238,6 +2238,13 @@ public final class EdgesTest {
         refused(x, "beside(0, 1), the BAG left", 0, y -> y.beside(0, 1));
         x.step(0, 0);
         refused(x, "beside(0, 1), with 0 itself", 0, y -> y.beside(0, 1));
+
+        edge(36, "some WORK: none is left of an ISLAND before");
+        x = isle("p2 t1 w000:1");
+        refused(x, "beside(0, 1)", 1, y -> y.beside(0, 1));
+        write(x, 3, "p2 t1");
+        x.island(3);
+        refused(x, "beside(0, 1) of an ISLAND without WORKS", 0, y -> y.beside(0, 1));
     }
 
     private static void paired(String s, int want, int sum) {
