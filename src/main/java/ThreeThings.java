@@ -276,7 +276,7 @@ public final class ThreeThings {
 
     public int can() {
         int works = now.doable();
-        told.tell(isle.worthOf[works]);
+        told.tell(isle.worthOf(works));
         return works;
     }
 
@@ -290,7 +290,7 @@ public final class ThreeThings {
             if (number != -1 && !isle.isNumber(number)) return told.find(UNLIKE);
         }
         int works = worksOfDay(r, n / HOURS);
-        told.tell(isle.worthOf[works]);
+        told.tell(isle.worthOf(works));
         return works;
     }
 
@@ -679,7 +679,8 @@ public final class ThreeThings {
         }
 
         boolean hasPlaces(int r, int i, int n) {
-            int all = sizeOf(r);
+            if (r < 0 || r >= size.length) return false;
+            int all = size[r];
             return i >= 0 && i <= all && n >= 0 && n <= all - i;
         }
 
@@ -734,7 +735,7 @@ public final class ThreeThings {
         /** WORKS (bits) of each HOUR. */
         final int[] byHour = new int[HOURS];
         /** WORTH together of each set of WORKS: the search for a DAY asks it of every state. */
-        final int[] worthOf = new int[1 << WORKS];
+        private final int[] worthOfSet = new int[1 << WORKS];
 
         void clear() {
             people = 0;
@@ -749,7 +750,7 @@ public final class ThreeThings {
             start[things] = place;
             weight[things] = weightOf(ofKind);
             room[things] = roomOf(ofKind);
-            if (isBag(things) && bags < BAGS) bag[bags++] = things;
+            if (room[things] > 0 && bags < BAGS) bag[bags++] = things;
             things++;
         }
 
@@ -776,7 +777,7 @@ public final class ThreeThings {
             for (int set = 0; set < 1 << works; set++) {
                 int sum = 0;
                 for (int w = 0; w < works; w++) sum += (set >> w & 1) * worth[w];
-                worthOf[set] = sum;
+                worthOfSet[set] = sum;
             }
         }
 
@@ -805,14 +806,15 @@ public final class ThreeThings {
         }
 
         boolean isBag(int t) {
-            return room[t] > 0;
+            return isThing(t) && room[t] > 0;
         }
 
         boolean isLiving(int t) {
-            return kind[t] == LIVING || kind[t] == BEAST;
+            return isThing(t) && (kind[t] == LIVING || kind[t] == BEAST);
         }
 
         boolean isOf(int t, int ofKind) {
+            if (!isThing(t)) return false;
             return kind[t] == ofKind || ofKind == BAG && isBag(t) || ofKind == LIVING && isLiving(t);
         }
 
@@ -825,6 +827,7 @@ public final class ThreeThings {
         }
 
         int ofWork(int w, int what) {
+            if (!isWork(w)) return 0;
             switch (what) {
                 case 0: return hour[w];
                 case 1: return who[w];
@@ -848,8 +851,12 @@ public final class ThreeThings {
             return set;
         }
 
+        int worthOf(int set) {
+            return set >= 0 && set < worthOfSet.length ? worthOfSet[set] : 0;
+        }
+
         int worthOfAll() {
-            return worthOf[(1 << works) - 1];
+            return worthOf((1 << works) - 1);
         }
 
         int lastHour() {
@@ -1019,6 +1026,7 @@ public final class ThreeThings {
         }
 
         void move(int t, int to) {
+            if (!isle.isStep(t, to)) return;
             where[t] = to;
             tally();
         }
@@ -1037,8 +1045,10 @@ public final class ThreeThings {
 
         /** With whom a THING is in the end; no BAG lies in a BAG. */
         int whom(int t) {
-            int place = where[t];
-            return place <= BEACH ? place : where[isle.bag[place - FIRST_BAG]];
+            if (t < 0 || t >= where.length) return BEACH;
+            int b = where[t] - FIRST_BAG;
+            if (b < 0) return where[t];
+            return b < isle.bags ? where[isle.bag[b]] : BEACH;
         }
 
         int loadOf(int p) {
@@ -1090,7 +1100,7 @@ public final class ThreeThings {
         }
 
         boolean allows(int t, int to) {
-            return (targets(t) >> to & 1) != 0;
+            return isle.isStep(t, to) && (targets(t) >> to & 1) != 0;
         }
 
         /** Whether the places alone, however come to, are as KINDS and LIMIT ask. */
@@ -1117,6 +1127,7 @@ public final class ThreeThings {
 
         /** What one LEAVES (bits) to be given a THING by THEFT; NONE: it can't be given. */
         int droppedFor(int t, int q) {
+            if (!isle.isThing(t) || !isle.isPerson(q)) return NONE;
             int over = load[q] + isle.weight[t] - limit;
             int dropped = 0;
             for (int u = 0; u < isle.things && over > 0; u++) {
@@ -1284,7 +1295,7 @@ public final class ThreeThings {
 
         /** A THING is wanted with one, on the BEACH, or (-1) anywhere. */
         void want(int t, int p) {
-            wanted[t] = p;
+            if (isle.isThing(t)) wanted[t] = p;
         }
 
         int firstAsWanted() {
@@ -1384,7 +1395,7 @@ public final class ThreeThings {
 
         private void gain(int works, int end) {
             if (works == 0) return;
-            for (int i = 0; i < end; i++) best[i] += isle.worthOf[doable[i] & works];
+            for (int i = 0; i < end; i++) best[i] += isle.worthOf(doable[i] & works);
         }
     }
 

@@ -176,9 +176,16 @@ public final class FaceTest {
                 for (int i = 0; i < args.length; i++) {
                     args[i] = random.nextInt(3) == 0 ? odd[random.nextInt(odd.length)] : random.nextInt(7) - 1;
                 }
-                m.invoke(x, args);
+                answered(m, m.invoke(x, args));
             }
         }
+    }
+
+    /** Below 0 are refusals and NONE alone, never SPENT; asked() and the longs answer any number. */
+    private static void answered(Method m, Object answer) {
+        if (m.getReturnType() != int.class || m.getName().equals("asked")) return;
+        int v = (Integer) answer;
+        due(m.getName() + " answered " + v + ", one of the document's", v >= -4 || v == -9, true);
     }
 
     /** All that is needed is made with the object: calls make nothing, however many there are. */
